@@ -416,6 +416,7 @@ public final class MacroSheet {
     // ---- actions
 
     private int changeByHand(char kind, int column, int row, int number) {
+        // Without a recording the distances tell nothing, but then nobody asks for them either.
         Step step = new Step(kind, column - baseColumn, row - baseRow, number);
         Macro macro = macroAt(recorded);
         if (macro != null) {

@@ -192,6 +192,17 @@ final class AuditTest {
         Checks.dueNoSuchCell(x, x::lastBy);
     }
 
+    static void promise23LastByKnowsTheFirstEntryOfAll() {
+        MacroSheet x = Checks.sheetWithMacros(2);
+        Checks.recordAdd(x, 1, 0, 0, 1);
+        Checks.grantAll(x, 1);
+        x.run(1, 4, 4);
+        Checks.due(1, x.entries());
+        Checks.due(1, x.lastBy(4, 4));
+        x.set(4, 5, 1);
+        Checks.due(1, x.lastBy(4, 4));
+    }
+
     static void promise24WriteStepWritesEachKind() {
         MacroSheet x = Checks.sheetWithMacros(1);
         x.record(0, 2, 3);

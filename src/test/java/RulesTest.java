@@ -219,6 +219,22 @@ final class RulesTest {
         }
     }
 
+    static void promise18ChangesThatRunNothingDoNotCountAmongTheTwenty() {
+        MacroSheet x = Checks.sheetWithMacros(2);
+        recordOneAndNine(x, 0);
+        Checks.grantAll(x, 0);
+        x.addRule(0, 0, 0, 0, 0, 0);
+        // No rule is for (0, 1): three times macro 0 by the rule.
+        Checks.due(40, x.run(0, 0, 0));
+        x.addRule(0, 1, 0, 1, 1, 0);
+        x.record(1, 0, 0);
+        // Now there is one, but its macro is recorded.
+        Checks.due(40, x.run(0, 0, 0));
+        Checks.due(0, x.skipped());
+        x.stop();
+        Checks.due(30, x.run(0, 0, 0));
+    }
+
     static void promise19OneThatIsSkippedDoesNotCountAmongTheTwenty() {
         MacroSheet x = Checks.sheetWithMacros(2);
         recordOneAndNine(x, 0);
