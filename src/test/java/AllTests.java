@@ -7,7 +7,9 @@ import java.util.Comparator;
 /** Runs every test of the project: each static method without arguments of the classes below. */
 public final class AllTests {
     private static final Class<?>[] TESTS = {FaceTest.class, CellsTest.class, MacrosTest.class,
-        RulesTest.class, AuditTest.class, LongRunsTest.class, RandomRunsTest.class};
+        RulesTest.class, AuditTest.class, CellTermsTest.class, ActionTermsTest.class,
+        RefusalsTest.class, LongRunsTest.class,
+        RandomRunsTest.class};
 
     private static int passed;
     private static int failed;

@@ -10,31 +10,26 @@ final class RulesTest {
         for (int i = 0; i < 6; i++) {
             Checks.due(i, x.addRule(0, 0, 5, 7, 0, i));
         }
-        Checks.dueThrowAndNothingElse(x, IllegalStateException.class,
-                () -> x.addRule(0, 0, 5, 7, 0, 9));
+        Checks.dueThrow(IllegalStateException.class, () -> x.addRule(0, 0, 5, 7, 0, 9));
         Checks.due(5, x.rule(0, 0));
     }
 
-    static void promise16AddRuleThrowsInTheOrderOfTheDocument() {
-        MacroSheet x = Checks.sheetWithMacros(2);
-        for (int rules = 0; rules <= 6; rules++) {
-            Checks.dueNoSuchCell(x, (column, row) -> x.addRule(column, row, 5, 7, 0, 0));
-            Checks.dueNoSuchCell(x, (column, row) -> x.addRule(3, 3, column, row, 0, 10));
-            Checks.dueNoSuchNumber(x, 2, macro -> x.addRule(0, 0, 5, 7, macro, 0));
-            Checks.dueNoSuchNumber(x, 2, macro -> x.addRule(3, 3, 2, 4, macro, -1));
-            for (int rank : new int[] {-1, 10, Integer.MIN_VALUE, Integer.MAX_VALUE}) {
-                Checks.dueThrowAndNothingElse(x, IllegalArgumentException.class,
-                        () -> x.addRule(0, 0, 5, 7, 0, rank));
-            }
-            Checks.dueThrowAndNothingElse(x, IllegalArgumentException.class,
-                    () -> x.addRule(3, 3, 2, 4, 0, 0));
-            Checks.dueThrowAndNothingElse(x, IllegalArgumentException.class,
-                    () -> x.addRule(3, 3, 4, 2, 0, 0));
-            if (rules < 6) {
-                Checks.due(rules, x.addRule(3, 3, 3, 3, 1, 9));
-            }
-        }
-        Checks.dueThrow(IllegalStateException.class, () -> x.addRule(3, 3, 3, 3, 1, 9));
+    static void promise16ARuleRunsTheStepsAndGrantsThatItsMacroHasByThen() {
+        MacroSheet x = Checks.sheetWithMacros(1);
+        x.addRule(0, 0, 0, 0, 0, 0);
+        Checks.due(1, x.set(0, 0, 1));
+        Checks.recordAdd(x, 0, 1, 0, 1);
+        Checks.due(1, x.set(0, 0, 2));
+        Checks.due(1, x.skipped());
+        Checks.grantAll(x, 0);
+        Checks.due(2, x.set(0, 0, 3));
+        Checks.recordAdd(x, 0, 0, 1, 4);
+        Checks.due(2, x.set(0, 0, 4));
+        Checks.due(1, x.cell(1, 0));
+        Checks.due(4, x.cell(0, 1));
+        x.takeGrants(0);
+        Checks.due(1, x.set(0, 0, 5));
+        Checks.due(2, x.skipped());
     }
 
     static void promise17SetRankReturnsTheRankBefore() {
@@ -48,18 +43,6 @@ final class RulesTest {
         Checks.due(1, x.rule(0, 0));
         Checks.due(0, x.setRank(0, 0));
         Checks.due(4, x.setRank(1, 4));
-    }
-
-    static void promise17SetRankThrows() {
-        MacroSheet x = Checks.sheetWithMacros(1);
-        Checks.ruleForAll(x, 0, 3);
-        Checks.dueNoSuchNumber(x, 1, rule -> x.setRank(rule, 0));
-        Checks.dueNoSuchNumber(x, 1, rule -> x.setRank(rule, 10));
-        for (int rank : new int[] {-1, 10, Integer.MIN_VALUE, Integer.MAX_VALUE}) {
-            Checks.dueThrowAndNothingElse(x, IllegalArgumentException.class,
-                    () -> x.setRank(0, rank));
-        }
-        Checks.due(3, x.setRank(0, 5));
     }
 
     static void promise18RuleTakesTheGreatestRankAndThenTheLowestNumber() {
@@ -77,9 +60,8 @@ final class RulesTest {
         Checks.due(2, x.rule(1, 1));
         x.setRank(0, 5);
         Checks.due(0, x.rule(1, 1));
-        Checks.dueThrowAndNothingElse(x, NoSuchElementException.class, () -> x.rule(0, 3));
-        Checks.dueThrowAndNothingElse(x, NoSuchElementException.class, () -> x.rule(4, 1));
-        Checks.dueNoSuchCell(x, x::rule);
+        Checks.dueThrow(NoSuchElementException.class, () -> x.rule(0, 3));
+        Checks.dueThrow(NoSuchElementException.class, () -> x.rule(4, 1));
     }
 
     static void promise18ARuleRunsOnlyTheOneForTheCell() {
