@@ -6,9 +6,9 @@ import java.util.Comparator;
 
 /** Runs every test of the project: each static method without arguments of the classes below. */
 public final class AllTests {
-    private static final Class<?>[] TESTS = {FaceTest.class, CellsTest.class, MacrosTest.class,
-        RulesTest.class, AuditTest.class, CellTermsTest.class, ActionTermsTest.class,
-        RefusalsTest.class, LongRunsTest.class,
+    private static final Class<?>[] TESTS = {FaceTest.class, LanguageTest.class, ReadmeTest.class,
+        CellsTest.class, MacrosTest.class, RulesTest.class, AuditTest.class, CellTermsTest.class,
+        ActionTermsTest.class, RefusalsTest.class, StaysTest.class, LongRunsTest.class,
         RandomRunsTest.class};
 
     private static int passed;
@@ -31,6 +31,10 @@ public final class AllTests {
         if (failed > 0 || passed == 0) {
             System.exit(1);
         }
+    }
+
+    static Class<?>[] tests() {
+        return TESTS.clone();
     }
 
     private static boolean isTest(Method method) {

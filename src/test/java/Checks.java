@@ -1,3 +1,6 @@
+import java.lang.reflect.Modifier;
+import java.util.ArrayList;
+import java.util.List;
 import java.util.Objects;
 
 /** What every test of the project asks with: an answer that is due, or an exception that is due. */
@@ -45,6 +48,18 @@ final class Checks {
     }
 
     // ---- what many tests begin with
+
+    /** The class and those inside it, each of them private and static. */
+    static List<Class<?>> ownClasses() {
+        List<Class<?>> classes = new ArrayList<>();
+        classes.add(MacroSheet.class);
+        for (Class<?> inside : MacroSheet.class.getDeclaredClasses()) {
+            due(true, Modifier.isPrivate(inside.getModifiers()));
+            due(true, Modifier.isStatic(inside.getModifiers()));
+            classes.add(inside);
+        }
+        return classes;
+    }
 
     static MacroSheet sheetWithMacros(int count) {
         MacroSheet x = new MacroSheet();

@@ -62,7 +62,7 @@ final class FaceTest {
     }
 
     static void noPrivateMethodBearsTheNameOfAPublicOne() {
-        for (Class<?> type : ownClasses()) {
+        for (Class<?> type : Checks.ownClasses()) {
             for (Method method : type.getDeclaredMethods()) {
                 for (Method open : MacroSheet.class.getMethods()) {
                     Checks.due(false, !method.equals(open)
@@ -73,7 +73,7 @@ final class FaceTest {
     }
 
     static void noFieldIsOpenAndNoStaticFieldChanges() {
-        for (Class<?> type : ownClasses()) {
+        for (Class<?> type : Checks.ownClasses()) {
             for (Field field : type.getDeclaredFields()) {
                 int modifiers = field.getModifiers();
                 Checks.due(true, Modifier.isPrivate(modifiers));
@@ -94,16 +94,5 @@ final class FaceTest {
             told.append(i == 0 ? " throws " : " ").append(thrown[i].getSimpleName());
         }
         return told.toString();
-    }
-
-    private static List<Class<?>> ownClasses() {
-        List<Class<?>> classes = new ArrayList<>();
-        classes.add(MacroSheet.class);
-        for (Class<?> inside : MacroSheet.class.getDeclaredClasses()) {
-            Checks.due(true, Modifier.isPrivate(inside.getModifiers()));
-            Checks.due(true, Modifier.isStatic(inside.getModifiers()));
-            classes.add(inside);
-        }
-        return classes;
     }
 }

@@ -108,13 +108,19 @@ final class Twins {
 
     // ---- what is asked
 
+    /** Asks that no later call could tell by which of the two a sheet was made. */
+    static void dueAlike(Calls one, Calls other) {
+        for (Ask question : QUESTIONS) {
+            Checks.due(question.of(madeBy(one)), question.of(madeBy(other)));
+        }
+    }
+
     /** Asks that the calls behind leave nothing that a later call could tell. */
     static void dueNoTrace(Calls before, Calls behind) {
-        for (Ask question : QUESTIONS) {
-            MacroSheet x = madeBy(before);
+        dueAlike(before, x -> {
+            before.on(x);
             behind.on(x);
-            Checks.due(question.of(madeBy(before)), question.of(x));
-        }
+        });
     }
 
     /** Asks that the call throws and that nothing has changed then. */
